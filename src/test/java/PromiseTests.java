@@ -27,6 +27,7 @@ public final class PromiseTests {
         insertRefusals();
         change();
         remove();
+        removeFromFullFields();
         removeLine();
         load();
         associate();
@@ -302,6 +303,9 @@ public final class PromiseTests {
         refused("lock of no user below", x, f -> f.lock(-1, 1), NO_SUCH);
         refused("lock of no record", x, f -> f.lock(0, 4), NO_SUCH);
         refused("lock of no user NONE", x, f -> f.lock(NONE, 1), NO_SUCH);
+        x.delete(3, 3);
+        due("the lock of another is taken back", x.unlock(0, 2), 1);
+        due("lock after a locked record was deleted", x.lock(3, 2), 1);
     }
 
     private static void unlock() {
@@ -441,6 +445,16 @@ public final class PromiseTests {
         dueText("the record", textOf(x, 1), "5/6]8/9^^^11]12/13");
     }
 
+    private static void removeFromFullFields() {
+        MultiValueFile x = fileWith(1, "^^1]2]3]4]5/6/7/8^1]2]3]4]5/6/7/8");
+        due("the first subvalue of four", x.remove(0, 1, 3, 4, 0), 5);
+        due("the first value of five", x.remove(0, 1, 3, 0, -1), 4);
+        due("the first value of five in another field", x.remove(0, 1, 2, 0, 0), 4);
+        dueText("the record", textOf(x, 1), "^^2]3]4]5/6/7/8^2]3]4]6/7/8");
+        due("the last value", x.remove(0, 1, 3, 3, -1), 3);
+        dueText("the record", textOf(x, 1), "^^2]3]4]5/6/7/8^2]3]4");
+    }
+
     private static void removeLine() {
         promise = 9;
         MultiValueFile x = fileWith(1, "1]2]3]4]5^1/2]3]4^5]6/7^8]9");
@@ -564,6 +578,8 @@ public final class PromiseTests {
         due("less, any", x.select(0, 0, 3, false, 0), 2);
         dueText("the list", listOf(x, 0), "9 40");
         due("less, every", x.select(0, 0, 3, true, 7), 1);
+        due("less than the lowest", x.select(0, 0, -7, false, 7), 0);
+        due("less, every", x.select(0, 0, 3, true, 7), 1);
         dueText("the list", listOf(x, 7), "40");
         due("equal, any", x.select(0, 1, 5, false, 0), 2);
         dueText("the list in place of what it was", listOf(x, 0), "0 9");
@@ -639,6 +655,7 @@ public final class PromiseTests {
         dueText("the other list", listOf(x, 0), "0 50");
         due("clearList(7) again", x.clearList(7), 0);
         due("clearList(0)", x.clearList(0), 2);
+        dueText("the list with the lowest id", listOf(x, 0), "");
         refused("no list", x, f -> f.clearList(8), NO_SUCH);
         refused("no list below", x, f -> f.clearList(-1), NO_SUCH);
     }
@@ -1079,7 +1096,9 @@ public final class PromiseTests {
         due("no record ahead of the number", x.locate(2, 0, 1000), NO_SUCH);
         due("no field ahead of the number", x.locate(1, 4, 1000), NO_SUCH);
         x.remove(0, 1, 0, 2, 3);
-        due("a removed one", x.locate(1, 0, 999), NONE);
+        due("a removed subvalue", x.locate(1, 0, 999), NONE);
+        x.remove(0, 1, 3, 4, -1);
+        due("a removed value", x.locate(1, 3, 7), NONE);
     }
 
     private static void column() {
@@ -1191,6 +1210,8 @@ public final class PromiseTests {
         dueText("kind 4 the other way", numbersOf(x, 1, 0), "15 -42");
         x.define(0, 4, 1, 1);
         dueText("kind 4 of one field", numbersOf(x, 1, 0), "25 49 4");
+        due("another column first", x.numberAt(1, 4, 0), 2);
+        due("the number of this column", x.numberAt(1, 0, 2), 4);
         due("place behind the end", x.numberAt(1, 0, 3), NONE);
         due("place highest", x.numberAt(1, 0, HIGHEST), NONE);
         due("place -1", x.numberAt(1, 0, -1), BAD_VALUE);
@@ -1327,6 +1348,8 @@ public final class PromiseTests {
         due("an empty file", new MultiValueFile().repeated(0), 0);
         due("no column", x.repeated(6), NO_SUCH);
         due("no column below", x.repeated(-1), NO_SUCH);
+        due("the first two alone", fileWith(1, "1/1/2^^^").repeated(0), 1);
+        due("three different ones", fileWith(1, "1/2/3^^^").repeated(0), 0);
         due("three, two and one", fileWith(1, "5/5/5/2]2]-5^^^").repeated(0), 2);
     }
 }
