@@ -1,21 +1,7 @@
 import java.util.function.ToIntFunction;
 
 /** For each promise: ordinary calls, the edges that the document names, and wrong arguments. */
-public final class PromiseTests {
-    private static final int NO_SUCH = -1000001;
-    private static final int BAD_VALUE = -1000002;
-    private static final int BAD_TEXT = -1000003;
-    private static final int TOO_MANY = -1000004;
-    private static final int NOT_POSSIBLE = -1000005;
-    private static final int LOCKED = -1000006;
-    private static final int NONE = -1000007;
-    private static final int LOWEST = Integer.MIN_VALUE;
-    private static final int HIGHEST = Integer.MAX_VALUE;
-
-    private static int promise = 0;
-    private static int checked = 0;
-    private static int wrong = 0;
-
+public final class PromiseTests extends Checks {
     public static void main(String[] args) {
         newObject();
         create();
@@ -64,160 +50,21 @@ public final class PromiseTests {
         total();
         mean();
         repeated();
-        System.out.println(checked - wrong + " answers as due, " + wrong + " not");
-        if (wrong != 0) {
-            System.exit(1);
-        }
-    }
-
-    // ---- the checks
-
-    private static void due(String call, int got, int want) {
-        checked++;
-        if (got != want) {
-            wrong++;
-            System.out.println("promise " + promise + ": " + call + " answered " + got + ", due is " + want);
-        }
-    }
-
-    private static void dueFloat(String call, float got, float want) {
-        checked++;
-        if (Float.compare(got, want) != 0) {
-            wrong++;
-            System.out.println("promise " + promise + ": " + call + " answered " + got + ", due is " + want);
-        }
-    }
-
-    private static void dueText(String call, String got, String want) {
-        checked++;
-        if (!got.equals(want)) {
-            wrong++;
-            System.out.println("promise " + promise + ": " + call + " gave " + got + ", due is " + want);
-        }
-    }
-
-    /** The call must answer the error code, change nothing and record nothing. */
-    private static void refused(String call, MultiValueFile x, ToIntFunction<MultiValueFile> made, int want) {
-        String before = stateOf(x);
-        due(call, made.applyAsInt(x), want);
-        dueText(call + " changes nothing", stateOf(x), before);
-    }
-
-    /** The refused call has recorded nothing if only the given number of states can be undone. */
-    private static void dueHistory(MultiValueFile x, int want) {
-        int undone = 0;
-        while (undone < 10 && x.undo() != NONE) {
-            undone++;
-        }
-        due("states in the history", undone, want);
-    }
-
-    // ---- ways to make and to see things
-
-    private static void type(MultiValueFile x, String text) {
-        x.clearText();
-        for (char sign : text.toCharArray()) {
-            x.append(sign);
-        }
-    }
-
-    private static void add(MultiValueFile x, int id, String text) {
-        x.create(id);
-        type(x, text);
-        x.load(0, id);
-        x.clearText();
-    }
-
-    private static MultiValueFile fileWith(int id, String text) {
-        MultiValueFile x = new MultiValueFile();
-        add(x, id, text);
-        return x;
-    }
-
-    private static String printedOf(MultiValueFile x) {
-        StringBuilder signs = new StringBuilder();
-        for (int index = 0; x.printed(index) != NONE; index++) {
-            signs.append((char) x.printed(index));
-        }
-        return signs.toString();
-    }
-
-    private static String textOf(MultiValueFile x, int id) {
-        x.print(id);
-        return printedOf(x);
-    }
-
-    private static String listOf(MultiValueFile x, int list) {
-        StringBuilder ids = new StringBuilder();
-        for (int place = 0; x.listAt(list, place) != NONE; place++) {
-            ids.append(x.listAt(list, place)).append(' ');
-        }
-        return ids.toString().trim();
-    }
-
-    private static String numbersOf(MultiValueFile x, int id, int column) {
-        StringBuilder row = new StringBuilder();
-        for (int place = 0; place < x.numbers(id, column); place++) {
-            row.append(x.numberAt(id, column, place)).append(' ');
-        }
-        return row.toString().trim();
-    }
-
-    private static String explodedOf(MultiValueFile x, int column, boolean isDescending) {
-        StringBuilder row = new StringBuilder();
-        for (int index = 0; index < x.exploded(column); index++) {
-            row.append(x.explodedAt(column, isDescending, index, 0)).append('@');
-            row.append(x.explodedAt(column, isDescending, index, 1)).append('.');
-            row.append(x.explodedAt(column, isDescending, index, 2)).append(' ');
-        }
-        return row.toString().trim();
-    }
-
-    private static String fieldOf(MultiValueFile x, int id, int field) {
-        StringBuilder row = new StringBuilder();
-        for (int value = 0; value < x.values(id, field); value++) {
-            row.append(value > 0 ? "]" : "");
-            for (int sub = 0; sub < x.subvalues(id, field, value); sub++) {
-                row.append(sub > 0 ? "/" : "").append(x.get(id, field, value, sub));
-            }
-        }
-        return row.toString();
-    }
-
-    /** All that belongs to the state, seen without a change of the printed text. */
-    private static String stateOf(MultiValueFile x) {
-        StringBuilder all = new StringBuilder();
-        for (int place = 0; place < x.records(); place++) {
-            int id = x.recordAt(place);
-            all.append(id).append(" locked by ").append(x.locker(id)).append(": ");
-            for (int field = 0; field < 4; field++) {
-                all.append(fieldOf(x, id, field)).append('^');
-            }
-        }
-        for (int field = 0; field < 4; field++) {
-            all.append(" a").append(x.associated(field));
-        }
-        for (int column = 0; column < 6; column++) {
-            all.append(" c").append(x.column(column, 0)).append(x.column(column, 1)).append(x.column(column, 2));
-        }
-        for (int list = 0; list < 8; list++) {
-            all.append(" l(").append(listOf(x, list)).append(')');
-        }
-        return all.toString();
+        finish();
     }
 
     // ---- promise 1
 
     private static void newObject() {
-        promise = 1;
-        MultiValueFile x = new MultiValueFile();
+        asks("promise 1");
+        CountedFile x = new CountedFile();
         due("records", x.records(), 0);
         due("fault", x.fault(), 0);
         due("clearText", x.clearText(), 0);
         due("printed(0)", x.printed(0), NONE);
         due("undo", x.undo(), NONE);
         dueText("state", stateOf(x), " a0 a1 a1 a0 c000 c010 c020 c030 c100 c412 l() l() l() l() l() l() l() l()");
-        MultiValueFile other = new MultiValueFile();
+        CountedFile other = new CountedFile();
         x.create(5);
         due("records of another object", other.records(), 0);
     }
@@ -225,8 +72,8 @@ public final class PromiseTests {
     // ---- records and locks
 
     private static void create() {
-        promise = 2;
-        MultiValueFile x = new MultiValueFile();
+        asks("promise 2");
+        CountedFile x = new CountedFile();
         due("create(99)", x.create(99), 1);
         due("create(0)", x.create(0), 2);
         due("create(50)", x.create(50), 3);
@@ -236,13 +83,13 @@ public final class PromiseTests {
         refused("create(100)", x, f -> f.create(100), BAD_VALUE);
         refused("create(lowest)", x, f -> f.create(LOWEST), BAD_VALUE);
         refused("create(0) again", x, f -> f.create(0), NOT_POSSIBLE);
-        dueHistory(x, 3);
+        due("states in the history", statesOf(x), 3);
         fullFile();
         createsAfterDelete();
     }
 
     private static void fullFile() {
-        MultiValueFile x = new MultiValueFile();
+        CountedFile x = new CountedFile();
         for (int id = 9; id >= 0; id--) {
             due("create of a file of ten", x.create(id), 10 - id);
         }
@@ -255,7 +102,7 @@ public final class PromiseTests {
     }
 
     private static void createsAfterDelete() {
-        MultiValueFile x = fileWith(7, "1]2/3^4^5^6");
+        CountedFile x = fileWith(7, "1]2/3^4^5^6");
         x.lock(1, 7);
         x.delete(1, 7);
         x.create(7);
@@ -264,8 +111,8 @@ public final class PromiseTests {
     }
 
     private static void delete() {
-        promise = 3;
-        MultiValueFile x = fileWith(4, "1^^^");
+        asks("promise 3");
+        CountedFile x = fileWith(4, "1^^^");
         add(x, 2, "2^^^");
         add(x, 6, "3^^^");
         x.select(0, 2, 0, false, 1);
@@ -287,8 +134,8 @@ public final class PromiseTests {
     }
 
     private static void lock() {
-        promise = 4;
-        MultiValueFile x = new MultiValueFile();
+        asks("promise 4");
+        CountedFile x = new CountedFile();
         x.create(1);
         x.create(2);
         x.create(3);
@@ -309,8 +156,8 @@ public final class PromiseTests {
     }
 
     private static void unlock() {
-        promise = 5;
-        MultiValueFile x = new MultiValueFile();
+        asks("promise 5");
+        CountedFile x = new CountedFile();
         x.create(1);
         x.create(2);
         x.lock(2, 1);
@@ -330,8 +177,8 @@ public final class PromiseTests {
     // ---- changes of records
 
     private static void insertValues() {
-        promise = 6;
-        MultiValueFile x = new MultiValueFile();
+        asks("promise 6");
+        CountedFile x = new CountedFile();
         x.create(1);
         due("insert of the first value", x.insert(0, 1, 3, 0, -1, -999), 1);
         due("insert at the end", x.insert(0, 1, 3, 1, -1, 999), 2);
@@ -348,7 +195,7 @@ public final class PromiseTests {
     }
 
     private static void insertSubvalues() {
-        MultiValueFile x = fileWith(1, "5]6^^^");
+        CountedFile x = fileWith(1, "5]6^^^");
         due("insert at the end", x.insert(0, 1, 0, 0, 1, 1), 2);
         due("insert at the front", x.insert(0, 1, 0, 0, 0, -2), 3);
         due("insert in the middle", x.insert(0, 1, 0, 0, 2, 3), 4);
@@ -365,7 +212,7 @@ public final class PromiseTests {
     }
 
     private static void insertRefusals() {
-        MultiValueFile x = fileWith(1, "1/2/3/4]2]3]4]5^^^");
+        CountedFile x = fileWith(1, "1/2/3/4]2]3]4]5^^^");
         refused("no user", x, f -> f.insert(4, 1, 0, 0, -1, 1), NO_SUCH);
         refused("no user below", x, f -> f.insert(-1, 1, 0, 0, -1, 1), NO_SUCH);
         refused("no record", x, f -> f.insert(0, 2, 0, 0, -1, 1), NO_SUCH);
@@ -390,8 +237,8 @@ public final class PromiseTests {
     }
 
     private static void change() {
-        promise = 7;
-        MultiValueFile x = fileWith(1, "1/2]3^4^5^6]7/8/9");
+        asks("promise 7");
+        CountedFile x = fileWith(1, "1/2]3^4^5^6]7/8/9");
         due("change", x.change(0, 1, 0, 0, 1, -999), 2);
         due("change back", x.change(0, 1, 0, 0, 1, 999), -999);
         due("change to the same", x.change(0, 1, 3, 1, 2, 9), 9);
@@ -416,8 +263,8 @@ public final class PromiseTests {
     }
 
     private static void remove() {
-        promise = 8;
-        MultiValueFile x = fileWith(1, "1/2/3/4]5/6]7]8/9]10^1]2^^11]12/13");
+        asks("promise 8");
+        CountedFile x = fileWith(1, "1/2/3/4]5/6]7]8/9]10^1]2^^11]12/13");
         due("a subvalue in the middle", x.remove(0, 1, 0, 0, 1), 5);
         dueText("the record", textOf(x, 1), "1/3/4]5/6]7]8/9]10^1]2^^11]12/13");
         due("the last subvalue of a value", x.remove(0, 1, 0, 0, 2), 5);
@@ -446,7 +293,7 @@ public final class PromiseTests {
     }
 
     private static void removeFromFullFields() {
-        MultiValueFile x = fileWith(1, "^^1]2]3]4]5/6/7/8^1]2]3]4]5/6/7/8");
+        CountedFile x = fileWith(1, "^^1]2]3]4]5/6/7/8^1]2]3]4]5/6/7/8");
         due("the first subvalue of four", x.remove(0, 1, 3, 4, 0), 5);
         due("the first value of five", x.remove(0, 1, 3, 0, -1), 4);
         due("the first value of five in another field", x.remove(0, 1, 2, 0, 0), 4);
@@ -456,8 +303,8 @@ public final class PromiseTests {
     }
 
     private static void removeLine() {
-        promise = 9;
-        MultiValueFile x = fileWith(1, "1]2]3]4]5^1/2]3]4^5]6/7^8]9");
+        asks("promise 9");
+        CountedFile x = fileWith(1, "1]2]3]4]5^1/2]3]4^5]6/7^8]9");
         refused("the place of a field that is not associated", x, f -> f.removeLine(0, 1, 3), NO_SUCH);
         due("a line of two", x.removeLine(0, 1, 1), 2);
         dueText("the record", textOf(x, 1), "1]2]3]4]5^1/2]4^5^8]9");
@@ -484,8 +331,8 @@ public final class PromiseTests {
     }
 
     private static void load() {
-        promise = 10;
-        MultiValueFile x = new MultiValueFile();
+        asks("promise 10");
+        CountedFile x = new CountedFile();
         x.create(1);
         x.create(2);
         refused("the empty text", x, f -> f.load(0, 1), BAD_TEXT);
@@ -516,7 +363,7 @@ public final class PromiseTests {
     }
 
     private static void loadIsNotShared() {
-        MultiValueFile x = new MultiValueFile();
+        CountedFile x = new CountedFile();
         x.create(1);
         x.create(2);
         type(x, "1]2^^^");
@@ -532,8 +379,8 @@ public final class PromiseTests {
     // ---- dictionary and lists
 
     private static void associate() {
-        promise = 11;
-        MultiValueFile x = new MultiValueFile();
+        asks("promise 11");
+        CountedFile x = new CountedFile();
         due("associate(1, true) again", x.associate(1, true), 2);
         due("associate(0, true)", x.associate(0, true), 3);
         due("associate(3, true)", x.associate(3, true), 4);
@@ -549,8 +396,8 @@ public final class PromiseTests {
     }
 
     private static void define() {
-        promise = 12;
-        MultiValueFile x = new MultiValueFile();
+        asks("promise 12");
+        CountedFile x = new CountedFile();
         due("define(5, 3, 2, 1)", x.define(5, 3, 2, 1), 4);
         due("define(5, 0, 3, 3)", x.define(5, 0, 3, 3), 3);
         due("define(5, 4, 0, 2)", x.define(5, 4, 0, 2), 0);
@@ -570,8 +417,8 @@ public final class PromiseTests {
     }
 
     private static void select() {
-        promise = 13;
-        MultiValueFile x = fileWith(9, "1]5/3^^^");
+        asks("promise 13");
+        CountedFile x = fileWith(9, "1]5/3^^^");
         add(x, 0, "5]5^^^");
         add(x, 99, "^^^");
         add(x, 40, "-7^^^");
@@ -605,8 +452,8 @@ public final class PromiseTests {
         refused("no list ahead of the test", x, f -> f.select(0, 3, 0, true, 8), NO_SUCH);
     }
 
-    private static MultiValueFile fileWithLists() {
-        MultiValueFile x = fileWith(0, "1]2^^^");
+    private static CountedFile fileWithLists() {
+        CountedFile x = fileWith(0, "1]2^^^");
         add(x, 50, "2]3^^^");
         add(x, 99, "3^^^");
         x.select(0, 1, 2, false, 0);
@@ -615,8 +462,8 @@ public final class PromiseTests {
     }
 
     private static void combine() {
-        promise = 14;
-        MultiValueFile x = fileWithLists();
+        asks("promise 14");
+        CountedFile x = fileWithLists();
         due("both", x.combine(0, 0, 7, 1), 1);
         dueText("the list", listOf(x, 1), "50");
         due("at least one", x.combine(1, 0, 7, 2), 3);
@@ -648,8 +495,8 @@ public final class PromiseTests {
     }
 
     private static void clearList() {
-        promise = 15;
-        MultiValueFile x = fileWithLists();
+        asks("promise 15");
+        CountedFile x = fileWithLists();
         due("clearList(7)", x.clearList(7), 2);
         dueText("the list", listOf(x, 7), "");
         dueText("the other list", listOf(x, 0), "0 50");
@@ -663,8 +510,8 @@ public final class PromiseTests {
     // ---- text, printed text and history
 
     private static void append() {
-        promise = 16;
-        MultiValueFile x = new MultiValueFile();
+        asks("promise 16");
+        CountedFile x = new CountedFile();
         due("append(32)", x.append(32), 1);
         due("append(126)", x.append(126), 2);
         due("append(31)", x.append(31), BAD_VALUE);
@@ -682,8 +529,8 @@ public final class PromiseTests {
     }
 
     private static void clearText() {
-        promise = 17;
-        MultiValueFile x = new MultiValueFile();
+        asks("promise 17");
+        CountedFile x = new CountedFile();
         type(x, "1^^^2");
         due("clearText", x.clearText(), 5);
         due("clearText again", x.clearText(), 0);
@@ -693,7 +540,7 @@ public final class PromiseTests {
     }
 
     private static void dueFault(String text, int want) {
-        MultiValueFile x = new MultiValueFile();
+        CountedFile x = new CountedFile();
         type(x, text);
         due("fault of " + text, x.fault(), want);
         due("fault again of " + text, x.fault(), want);
@@ -701,7 +548,7 @@ public final class PromiseTests {
     }
 
     private static void fault() {
-        promise = 18;
+        asks("promise 18");
         dueFault("", 0);
         dueFault("^^^", NONE);
         dueFault("^^", 2);
@@ -765,8 +612,8 @@ public final class PromiseTests {
     }
 
     private static void print() {
-        promise = 19;
-        MultiValueFile x = fileWith(1, "-999/0/9]10^^100^-5");
+        asks("promise 19");
+        CountedFile x = fileWith(1, "-999/0/9]10^^100^-5");
         add(x, 2, "^^^");
         due("print", x.print(1), 19);
         dueText("the printed text", printedOf(x), "-999/0/9]10^^100^-5");
@@ -784,7 +631,7 @@ public final class PromiseTests {
     }
 
     private static void longestPrint() {
-        MultiValueFile x = new MultiValueFile();
+        CountedFile x = new CountedFile();
         x.create(0);
         StringBuilder want = new StringBuilder();
         for (int field = 0; field < 4; field++) {
@@ -802,8 +649,8 @@ public final class PromiseTests {
     }
 
     private static void printed() {
-        promise = 20;
-        MultiValueFile x = fileWith(1, "^^^-1/2]3");
+        asks("promise 20");
+        CountedFile x = fileWith(1, "^^^-1/2]3");
         due("printed(0) before print", x.printed(0), NONE);
         x.print(1);
         due("printed(0)", x.printed(0), '^');
@@ -818,8 +665,8 @@ public final class PromiseTests {
     }
 
     private static void undo() {
-        promise = 21;
-        MultiValueFile x = new MultiValueFile();
+        asks("promise 21");
+        CountedFile x = new CountedFile();
         due("undo of nothing", x.undo(), NONE);
         for (int id = 0; id < 6; id++) {
             x.create(id);
@@ -838,7 +685,7 @@ public final class PromiseTests {
     }
 
     private static void undoRestoresEverything() {
-        MultiValueFile x = fileWith(1, "1/2]3^4^5]6^7");
+        CountedFile x = fileWith(1, "1/2]3^4^5]6^7");
         add(x, 9, "8^^^");
         x.select(0, 2, 0, false, 3);
         x.lock(2, 9);
@@ -872,7 +719,7 @@ public final class PromiseTests {
     }
 
     private static void undoKeepsTexts() {
-        MultiValueFile x = fileWith(1, "1^^^");
+        CountedFile x = fileWith(1, "1^^^");
         x.change(0, 1, 0, 0, 0, 2);
         x.print(1);
         type(x, "^^^5");
@@ -903,8 +750,8 @@ public final class PromiseTests {
         dueRecorded("clearList of an empty list", f -> f.clearList(0));
     }
 
-    private static void dueRecorded(String call, ToIntFunction<MultiValueFile> made) {
-        MultiValueFile x = readyFile();
+    private static void dueRecorded(String call, ToIntFunction<CountedFile> made) {
+        CountedFile x = readyFile();
         String before = stateOf(x);
         due(call + " is no error", made.applyAsInt(x) >= 0 ? 1 : 0, 1);
         due("undo of " + call, x.undo(), 1);
@@ -912,8 +759,8 @@ public final class PromiseTests {
     }
 
     /** Two records, one of them locked by the user 3, a text, and one state in the history. */
-    private static MultiValueFile readyFile() {
-        MultiValueFile x = fileWith(1, "1]2^3^^");
+    private static CountedFile readyFile() {
+        CountedFile x = fileWith(1, "1]2^3^^");
         x.create(2);
         x.lock(3, 2);
         type(x, "1]2^3^^");
@@ -927,7 +774,7 @@ public final class PromiseTests {
     }
 
     private static void noOtherCallIsRecorded() {
-        MultiValueFile x = readyFile();
+        CountedFile x = readyFile();
         x.append('1');
         x.clearText();
         x.fault();
@@ -959,8 +806,8 @@ public final class PromiseTests {
     // ---- what there is
 
     private static void records() {
-        promise = 22;
-        MultiValueFile x = new MultiValueFile();
+        asks("promise 22");
+        CountedFile x = new CountedFile();
         due("records of an empty file", x.records(), 0);
         x.create(3);
         x.create(1);
@@ -974,8 +821,8 @@ public final class PromiseTests {
     }
 
     private static void recordAt() {
-        promise = 23;
-        MultiValueFile x = new MultiValueFile();
+        asks("promise 23");
+        CountedFile x = new CountedFile();
         due("recordAt(0) of an empty file", x.recordAt(0), NONE);
         x.create(50);
         x.create(0);
@@ -996,8 +843,8 @@ public final class PromiseTests {
     }
 
     private static void locker() {
-        promise = 24;
-        MultiValueFile x = new MultiValueFile();
+        asks("promise 24");
+        CountedFile x = new CountedFile();
         x.create(1);
         due("locker of an unlocked one", x.locker(1), NONE);
         x.lock(0, 1);
@@ -1010,8 +857,8 @@ public final class PromiseTests {
     }
 
     private static void values() {
-        promise = 25;
-        MultiValueFile x = fileWith(1, "1/2/3]4^^5^1]2]3]4]5");
+        asks("promise 25");
+        CountedFile x = fileWith(1, "1/2/3]4^^5^1]2]3]4]5");
         due("values(1, 0)", x.values(1, 0), 2);
         due("values(1, 1)", x.values(1, 1), 0);
         due("values(1, 2)", x.values(1, 2), 1);
@@ -1023,8 +870,8 @@ public final class PromiseTests {
     }
 
     private static void subvalues() {
-        promise = 26;
-        MultiValueFile x = fileWith(1, "1/2/3]4^^5^1]2]3]4]5/6/7/8");
+        asks("promise 26");
+        CountedFile x = fileWith(1, "1/2/3]4^^5^1]2]3]4]5/6/7/8");
         due("subvalues(1, 0, 0)", x.subvalues(1, 0, 0), 3);
         due("subvalues(1, 0, 1)", x.subvalues(1, 0, 1), 1);
         due("subvalues(1, 3, 4)", x.subvalues(1, 3, 4), 4);
@@ -1038,8 +885,8 @@ public final class PromiseTests {
     }
 
     private static void get() {
-        promise = 27;
-        MultiValueFile x = fileWith(1, "1/-2/3]4^^5^1]2]3]4]5/6/7/-999");
+        asks("promise 27");
+        CountedFile x = fileWith(1, "1/-2/3]4^^5^1]2]3]4]5/6/7/-999");
         due("get(1, 0, 0, 0)", x.get(1, 0, 0, 0), 1);
         due("get(1, 0, 0, 1)", x.get(1, 0, 0, 1), -2);
         due("get(1, 0, 1, 0)", x.get(1, 0, 1, 0), 4);
@@ -1057,8 +904,8 @@ public final class PromiseTests {
     }
 
     private static void lines() {
-        promise = 28;
-        MultiValueFile x = fileWith(1, "1]2]3]4]5^1^2]3/4/5/6^7]8]9");
+        asks("promise 28");
+        CountedFile x = fileWith(1, "1]2]3]4]5^1^2]3/4/5/6^7]8]9");
         due("lines", x.lines(1), 2);
         x.associate(2, false);
         due("lines of one field", x.lines(1), 1);
@@ -1078,8 +925,8 @@ public final class PromiseTests {
     }
 
     private static void locate() {
-        promise = 29;
-        MultiValueFile x = fileWith(1, "1/2/3]4/5]2/5/1/999^^^1]2]3]4]-999/0/6/7");
+        asks("promise 29");
+        CountedFile x = fileWith(1, "1/2/3]4/5]2/5/1/999^^^1]2]3]4]-999/0/6/7");
         due("in the first value", x.locate(1, 0, 2), 1);
         due("in the second value", x.locate(1, 0, 5), 11);
         due("in the third value", x.locate(1, 0, 999), 23);
@@ -1102,8 +949,8 @@ public final class PromiseTests {
     }
 
     private static void column() {
-        promise = 30;
-        MultiValueFile x = new MultiValueFile();
+        asks("promise 30");
+        CountedFile x = new CountedFile();
         due("column(3, 0)", x.column(3, 0), 0);
         due("column(3, 1)", x.column(3, 1), 3);
         due("column(3, 2)", x.column(3, 2), 0);
@@ -1123,8 +970,8 @@ public final class PromiseTests {
     }
 
     private static void associated() {
-        promise = 31;
-        MultiValueFile x = new MultiValueFile();
+        asks("promise 31");
+        CountedFile x = new CountedFile();
         due("associated(0)", x.associated(0), 0);
         due("associated(1)", x.associated(1), 1);
         due("associated(2)", x.associated(2), 1);
@@ -1136,8 +983,8 @@ public final class PromiseTests {
     }
 
     private static void listSize() {
-        promise = 32;
-        MultiValueFile x = fileWithLists();
+        asks("promise 32");
+        CountedFile x = fileWithLists();
         due("listSize(0)", x.listSize(0), 2);
         due("listSize(1)", x.listSize(1), 0);
         due("listSize(7)", x.listSize(7), 2);
@@ -1150,8 +997,8 @@ public final class PromiseTests {
     }
 
     private static void listAt() {
-        promise = 33;
-        MultiValueFile x = fileWithLists();
+        asks("promise 33");
+        CountedFile x = fileWithLists();
         due("listAt(0, 0)", x.listAt(0, 0), 0);
         due("listAt(0, 1)", x.listAt(0, 1), 50);
         due("listAt(0, 2)", x.listAt(0, 2), NONE);
@@ -1167,8 +1014,8 @@ public final class PromiseTests {
     // ---- computed
 
     private static void numbers() {
-        promise = 34;
-        MultiValueFile x = fileWith(1, "1/2/3]4^1]2]3^4]5^");
+        asks("promise 34");
+        CountedFile x = fileWith(1, "1/2/3]4^1]2]3^4]5^");
         due("kind 0", x.numbers(1, 0), 4);
         due("kind 0 of an empty field", x.numbers(1, 3), 0);
         due("kind 1", x.numbers(1, 4), 1);
@@ -1193,8 +1040,8 @@ public final class PromiseTests {
     }
 
     private static void numberAt() {
-        promise = 35;
-        MultiValueFile x = fileWith(1, "1/-2/3]4^-5/9]-7]2/1^-3/8]6^");
+        asks("promise 35");
+        CountedFile x = fileWith(1, "1/-2/3]4^-5/9]-7]2/1^-3/8]6^");
         dueText("kind 0", numbersOf(x, 1, 0), "1 -2 3 4");
         dueText("kind 1", numbersOf(x, 1, 4), "2");
         dueText("kind 4", numbersOf(x, 1, 5), "15 -42");
@@ -1224,7 +1071,7 @@ public final class PromiseTests {
     }
 
     private static void greatestNumbers() {
-        MultiValueFile x = fileWith(1, "-999/-998/-1000000^-999]999^999]999^");
+        CountedFile x = fileWith(1, "-999/-998/-1000000^-999]999^999]999^");
         due("no record by a faulty text", x.values(1, 0), 0);
         type(x, "-5/-3/-4^-999]999^999]999^");
         x.load(0, 1);
@@ -1235,30 +1082,30 @@ public final class PromiseTests {
         dueText("the sum of negative ones", numbersOf(x, 1, 0), "-12");
     }
 
-    private static MultiValueFile threeRecords() {
-        MultiValueFile x = fileWith(50, "3/1]3^^^");
+    private static CountedFile threeRecords() {
+        CountedFile x = fileWith(50, "3/1]3^^^");
         add(x, 7, "3]-2/1^2^3^");
         add(x, 99, "^^^");
         return x;
     }
 
     private static void exploded() {
-        promise = 36;
-        MultiValueFile x = threeRecords();
+        asks("promise 36");
+        CountedFile x = threeRecords();
         due("exploded(0)", x.exploded(0), 6);
         due("exploded(3)", x.exploded(3), 0);
         due("exploded(4)", x.exploded(4), 3);
         due("exploded(5)", x.exploded(5), 1);
         x.delete(0, 7);
         due("exploded(0) after delete", x.exploded(0), 3);
-        due("exploded of an empty file", new MultiValueFile().exploded(4), 0);
+        due("exploded of an empty file", new CountedFile().exploded(4), 0);
         due("no column", x.exploded(6), NO_SUCH);
         due("no column below", x.exploded(-1), NO_SUCH);
     }
 
     private static void explodedAt() {
-        promise = 37;
-        MultiValueFile x = threeRecords();
+        asks("promise 37");
+        CountedFile x = threeRecords();
         dueText("ascending", explodedOf(x, 0, false), "-2@7.1 1@7.2 1@50.1 3@7.0 3@50.0 3@50.2");
         dueText("descending", explodedOf(x, 0, true), "3@7.0 3@50.0 3@50.2 1@7.2 1@50.1 -2@7.1");
         dueText("a computed column", explodedOf(x, 4, true), "2@7.0 2@50.0 0@99.0");
@@ -1276,7 +1123,7 @@ public final class PromiseTests {
     }
 
     private static void greatestList() {
-        MultiValueFile x = new MultiValueFile();
+        CountedFile x = new CountedFile();
         type(x, "1/1/1/1]1/1/1/1]1/1/1/1]1/1/1/1]1/1/1/2^^^");
         for (int id = 10; id < 20; id++) {
             x.create(id);
@@ -1294,8 +1141,8 @@ public final class PromiseTests {
     }
 
     private static void total() {
-        promise = 38;
-        MultiValueFile x = threeRecords();
+        asks("promise 38");
+        CountedFile x = threeRecords();
         due("all records", x.total(0, -1), 9);
         due("an empty list", x.total(0, 0), 0);
         x.select(0, 0, 0, false, 0);
@@ -1313,21 +1160,21 @@ public final class PromiseTests {
     }
 
     private static void mean() {
-        promise = 39;
-        MultiValueFile x = threeRecords();
+        asks("promise 39");
+        CountedFile x = threeRecords();
         dueFloat("mean(0)", x.mean(0), 1.5f);
         dueFloat("mean(3)", x.mean(3), 0.0f);
         dueFloat("mean(4)", x.mean(4), 4.0f / 3.0f);
         dueFloat("no column", x.mean(6), -2000000.0f);
         dueFloat("no column below", x.mean(-1), -2000000.0f);
-        dueFloat("an empty file", new MultiValueFile().mean(4), 0.0f);
+        dueFloat("an empty file", new CountedFile().mean(4), 0.0f);
         dueFloat("a mean of zero", fileWith(1, "-1]1^^^").mean(0), 0.0f);
         sumBeyondFloats();
     }
 
     /** The sum is made of whole numbers, and only the sum becomes a float. */
     private static void sumBeyondFloats() {
-        MultiValueFile x = new MultiValueFile();
+        CountedFile x = new CountedFile();
         for (int id = 0; id < 7; id++) {
             add(x, id, "^999]997]991]983]977^999]989]971]967]953^");
         }
@@ -1337,15 +1184,15 @@ public final class PromiseTests {
     }
 
     private static void repeated() {
-        promise = 40;
-        MultiValueFile x = threeRecords();
+        asks("promise 40");
+        CountedFile x = threeRecords();
         due("repeated(0)", x.repeated(0), 2);
         due("repeated(4)", x.repeated(4), 1);
         due("repeated(5)", x.repeated(5), 0);
         due("repeated(3)", x.repeated(3), 0);
         x.delete(0, 7);
         due("repeated in one record", x.repeated(0), 1);
-        due("an empty file", new MultiValueFile().repeated(0), 0);
+        due("an empty file", new CountedFile().repeated(0), 0);
         due("no column", x.repeated(6), NO_SUCH);
         due("no column below", x.repeated(-1), NO_SUCH);
         due("the first two alone", fileWith(1, "1/1/2^^^").repeated(0), 1);
