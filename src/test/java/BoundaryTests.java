@@ -234,6 +234,16 @@ public final class BoundaryTests extends Checks {
             allRefused("insert", before, (f, sub) -> f.insert(0, 5, 2, 1, sub, 9), NO_SUCH, -2, count + 1, 5, LOWEST, HIGHEST);
         }
 
+        asks("insert: Returns the number of values of the field afterwards if sub is -1, otherwise the number of subvalues of the value"
+                + " afterwards");
+        CountedFile grown = fileWith(5, "1]1]1^^^");
+        due("insert of a fourth value", grown.insert(0, 5, 0, 3, -1, 9), 4);
+        due("insert of a fifth value", grown.insert(0, 5, 0, 0, -1, 9), 5);
+        due("insert of a second subvalue", grown.insert(0, 5, 0, 4, 1, 9), 2);
+        due("insert of a third subvalue", grown.insert(0, 5, 0, 4, 0, 9), 3);
+        due("insert of a fourth subvalue", grown.insert(0, 5, 0, 4, 3, 9), 4);
+        due("insert of the first value", grown.insert(0, 5, 3, 0, -1, 9), 1);
+
         asks("insert: (with sub being 0 or more, there has to be a value with the place value)");
         CountedFile x = fileWith(5, "1]2^^1]2]3]4]5^");
         allRefused("insert behind the last value", x, (f, sub) -> f.insert(0, 5, 0, 2, sub, 9), NO_SUCH, 0, 1, HIGHEST);
@@ -316,10 +326,24 @@ public final class BoundaryTests extends Checks {
             }
         }
         String[] rest = {"2/3/4", "1/3/4", "1/2/4", "1/2/3"};
-        for (int sub = 0; sub < 4; sub++) {
-            CountedFile x = fileWith(5, field + "^^^");
-            due("remove of a subvalue", x.remove(0, 5, 0, 0, sub), 5);
-            dueText("what is left", fieldOf(x, 5, 0), rest[sub] + "]5]6/7]8/9/0]1");
+        for (int place = 0; place < 4; place++) {
+            for (int sub = 0; sub < 4; sub++) {
+                CountedFile x = fileWith(5, "^".repeat(place) + field + "^".repeat(3 - place));
+                due("remove of a subvalue", x.remove(0, 5, place, 0, sub), 5);
+                dueText("what is left", fieldOf(x, 5, place), rest[sub] + "]5]6/7]8/9/0]1");
+            }
+        }
+        String fours = "1/2/3/4]1/2/3/4]1/2/3/4]1/2/3/4]1/2/3/4";
+        for (int place = 0; place < 4; place++) {
+            for (int value = 0; value < 5; value++) {
+                CountedFile x = fileWith(5, "^".repeat(place) + fours + "^".repeat(3 - place));
+                due("remove of a subvalue", x.remove(0, 5, place, value, 1), 5);
+                due("subvalues", x.subvalues(5, place, value), 3);
+                due("subvalues of the next value", x.subvalues(5, place, (value + 1) % 5), 4);
+                due("remove of the last subvalue", x.remove(0, 5, place, value, 2), 5);
+                due("subvalues", x.subvalues(5, place, value), 2);
+                dueText("what is left", fieldOf(x, 5, place), fours.substring(0, 8 * value) + "1/3" + fours.substring(8 * value + 7));
+            }
         }
 
         asks("remove: NO_SUCH if there is no such user, record, field, value or subvalue");
@@ -602,6 +626,12 @@ public final class BoundaryTests extends Checks {
         allRefused("select", x, (f, column) -> f.select(column, 0, 0, false, 0), NO_SUCH, NO_COLUMNS);
         allRefused("select", x, (f, list) -> f.select(0, 0, 0, false, list), NO_SUCH, NO_LISTS);
 
+        for (int column = 0; column < 6; column++) {
+            CountedFile y = fileWith(5, "1^1^1^1");
+            due("select by " + column, y.select(column, 1, 1, true, 7), 1);
+            due("select into " + column, y.select(0, 1, 1, true, column + 1), 1);
+        }
+
         asks("select: number: -1000000 to 1000000; BAD_VALUE if test or number is out of range");
         allRefused("select", x, (f, test) -> f.select(0, test, 0, false, 0), BAD_VALUE, NO_CHOICES);
         for (int test = 0; test < 3; test++) {
@@ -668,6 +698,13 @@ public final class BoundaryTests extends Checks {
         asks("combine: saves the result as a list, in place of what it was");
         dueCombined(x, 0, 0, 7, 6, "44");
         dueCombined(x, 2, 6, 7, 0, "0 11 22 33 55 66 77 88");
+
+        asks("combine: Returns the number of ids of the result");
+        CountedFile counted = withLists();
+        due("of all", counted.combine(1, 6, 0, 5), 10);
+        due("of all but two", counted.combine(2, 6, 0, 5), 8);
+        due("of two", counted.combine(0, 6, 7, 5), 2);
+        due("of none", counted.combine(0, 6, 1, 5), 0);
 
         asks("combine: NO_SUCH if there is no such list");
         allRefused("combine, first", x, (f, list) -> f.combine(0, list, 0, 0), NO_SUCH, NO_LISTS);
@@ -983,6 +1020,11 @@ public final class BoundaryTests extends Checks {
         asks("locate: NONE if no subvalue of the field is this number");
         allRefused("locate", x, (f, number) -> f.locate(5, 0, number), NONE, 4, -1, -7, -998, 998, 10);
         allRefused("locate in an empty field", x, (f, number) -> f.locate(5, 1, number), NONE, 0, 1, -999, 999);
+        CountedFile emptied = x.twin();
+        emptied.remove(0, 5, 0, 4, -1);
+        allRefused("locate of a removed value's number", emptied, (f, number) -> f.locate(5, 0, number), NONE, 5, 6, 9);
+        emptied.remove(0, 5, 0, 0, 3);
+        allRefused("locate of a removed subvalue", emptied, (f, number) -> f.locate(5, 0, number), NONE, 2);
         allRefused("locate of another field's number", x, (f, number) -> f.locate(5, 3, number), NONE, 7, -999, 999);
     }
 

@@ -52,7 +52,7 @@ abstract class Checks {
         check(got.equals(want), call, got, want);
     }
 
-    /** The call must answer this, and change nothing: no state, no text and no history. */
+    /** The call must answer this, be it an error or not, and change nothing: no state, no text and no history. */
     static void refused(String call, CountedFile x, ToIntFunction<CountedFile> made, int want) {
         String before = whole(x);
         due(call, made.applyAsInt(x), want);

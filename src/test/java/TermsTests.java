@@ -52,8 +52,10 @@ public final class TermsTests extends Checks {
         printedInTheSameForm();
         printedBeyondNinety();
         whatTheStateIs();
+        allOfTheStateIsRestored();
         recordedEvenIfNothingChanges();
         onlyActionsAreRecorded();
+        viewsChangeNothing();
         errorsAreNotRecorded();
         atMostFourStates();
         textsAreNoPartOfTheState();
@@ -893,6 +895,53 @@ public final class TermsTests extends Checks {
         }
     }
 
+    /** Each part of the state, by itself, is as it was after an undo. */
+    private static void allOfTheStateIsRestored() {
+        asks("The state consists of the records with their locks, the associated fields, the columns and the saved lists.");
+        CountedFile x = fileWith(0, "1^2^3^4");
+        add(x, 99, "5]6^7^8^9/10");
+        for (int field = 0; field < 4; field++) {
+            int fi = field;
+            boolean isIn = x.associated(field) == 1;
+            dueRestored("associate " + field, x, f -> f.associate(fi, !isIn));
+            dueRestored("insert into " + field, x, f -> f.insert(0, 99, fi, 1, -1, 99));
+            dueRestored("insert of a subvalue into " + field, x, f -> f.insert(0, 0, fi, 0, 1, 99));
+            dueRestored("change of " + field, x, f -> f.change(0, 99, fi, 0, 0, 99));
+            dueRestored("remove from " + field, x, f -> f.remove(0, 0, fi, 0, 0));
+        }
+        for (int column = 0; column < 6; column++) {
+            int c = column;
+            dueRestored("define of the kind of " + column, x, f -> f.define(c, 3, f.column(c, 1), f.column(c, 2)));
+            dueRestored("define of the first field of " + column, x, f -> f.define(c, f.column(c, 0), 3 - f.column(c, 1), f.column(c, 2)));
+            dueRestored("define of the second field of " + column, x, f -> f.define(c, f.column(c, 0), f.column(c, 1), 3));
+        }
+        for (int user = 0; user < 4; user++) {
+            int u = user;
+            dueRestored("lock by " + user, x, f -> f.lock(u, 99));
+            CountedFile locked = x.twin();
+            locked.lock(user, 99);
+            dueRestored("unlock by " + user, locked, f -> f.unlock(u, 99));
+            dueRestored("delete by " + user, locked, f -> f.delete(u, 99));
+        }
+        for (int list = 0; list < 8; list++) {
+            int l = list;
+            dueRestored("select into " + list, x, f -> f.select(4, 2, 0, true, l));
+            CountedFile listed = x.twin();
+            listed.select(4, 2, 0, true, list);
+            dueRestored("clearList of " + list, listed, f -> f.clearList(l));
+            dueRestored("combine into " + list, listed, f -> f.combine(2, l, l, l));
+        }
+    }
+
+    private static void dueRestored(String call, CountedFile x, ToIntFunction<CountedFile> action) {
+        CountedFile y = x.twin();
+        String before = stateOf(y);
+        due(call + " is no error", action.applyAsInt(y) >= 0 ? 1 : 0, 1);
+        due(call + " changes the state", stateOf(y).equals(before) ? 0 : 1, 1);
+        due("undo of " + call, y.undo() >= 0 ? 1 : 0, 1);
+        dueText("the state after undo of " + call, stateOf(y), before);
+    }
+
     private static void recordedEvenIfNothingChanges() {
         asks("Each action that returns no error code records the state before it in the history, even if the action changes"
                 + " nothing.");
@@ -934,6 +983,39 @@ public final class TermsTests extends Checks {
                 dueText("and records nothing", historyOf(x) + stateOf(x), before);
             }
         }
+    }
+
+    private static void viewsChangeNothing() {
+        asks("what there is; these methods change nothing");
+        CountedFile x = ready(4);
+        x.print(1);
+        refused("records", x, CountedFile::records, 2);
+        refused("recordAt", x, f -> f.recordAt(1), 2);
+        refused("locker", x, f -> f.locker(2), 3);
+        refused("values", x, f -> f.values(1, 0), 2);
+        refused("subvalues", x, f -> f.subvalues(1, 0, 0), 2);
+        refused("get", x, f -> f.get(1, 0, 0, 1), 2);
+        refused("lines", x, f -> f.lines(1), 1);
+        refused("locate", x, f -> f.locate(1, 0, 3), 10);
+        refused("column", x, f -> f.column(5, 2), 2);
+        refused("associated", x, f -> f.associated(1), 1);
+        refused("listSize", x, f -> f.listSize(1), 1);
+        refused("listAt", x, f -> f.listAt(1, 0), 1);
+        asks("computed; these methods change nothing");
+        for (int column = 0; column < 6; column++) {
+            int c = column;
+            int numbers = new int[] {3, 1, 1, 0, 1, 1}[c];
+            refused("numbers", x, f -> f.numbers(1, c), numbers);
+            refused("numberAt", x, f -> f.numberAt(1, c, 3), NONE);
+            refused("exploded", x, f -> f.exploded(c), c == 4 ? 2 : numbers);
+            refused("explodedAt", x, f -> f.explodedAt(c, true, 3, 0), NONE);
+            refused("total", x, f -> f.total(c, -1), new int[] {6, 4, 5, 0, 2, 20}[c]);
+            refused("mean", x, f -> (int) (f.mean(c) * 10), new int[] {20, 40, 50, 0, 10, 200}[c]);
+            refused("repeated", x, f -> f.repeated(c), 0);
+        }
+        asks("fault and printed change nothing");
+        refused("fault", x, CountedFile::fault, NONE);
+        refused("printed", x, f -> f.printed(0), '1');
     }
 
     private static void errorsAreNotRecorded() {
