@@ -60,6 +60,7 @@ public final class TermsTests extends Checks {
         atMostFourStates();
         textsAreNoPartOfTheState();
         historyIsNoPartOfTheState();
+        constants();
         errorsInTheirOrder();
         noneIsNoError();
         noSuchRecord();
@@ -390,7 +391,8 @@ public final class TermsTests extends Checks {
     }
 
     private static void linesOfAssociatedFields() {
-        asks("A line has the values of those associated fields that have a value with its place.");
+        asks("The values with the same place in all associated fields of a record belong together: they make a line. A line has"
+                + " the values of those associated fields that have a value with its place.");
         int[] lengths = {5, 1, 3, 4};
         for (int all = 0; all < 16; all++) {
             CountedFile x = fileWith(1, "1]2]3]4]5/6^1^1]2]3/4/5/6^1]2]3]4");
@@ -1169,6 +1171,17 @@ public final class TermsTests extends Checks {
         refused("explodedAt: part ahead of the end", x, f -> f.explodedAt(0, false, 20, 3), BAD_VALUE);
         type(x, "1".repeat(90));
         refused("append: range ahead of room", x, f -> f.append(127), BAD_VALUE);
+    }
+
+    private static void constants() {
+        asks("The constants");
+        due("NO_SUCH", MultiValueFile.NO_SUCH, -1000001);
+        due("BAD_VALUE", MultiValueFile.BAD_VALUE, -1000002);
+        due("BAD_TEXT", MultiValueFile.BAD_TEXT, -1000003);
+        due("TOO_MANY", MultiValueFile.TOO_MANY, -1000004);
+        due("NOT_POSSIBLE", MultiValueFile.NOT_POSSIBLE, -1000005);
+        due("LOCKED", MultiValueFile.LOCKED, -1000006);
+        due("NONE", MultiValueFile.NONE, -1000007);
     }
 
     private static void noneIsNoError() {
