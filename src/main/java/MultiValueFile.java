@@ -428,7 +428,7 @@ public final class MultiValueFile {
         pastSize = PAST_STATES - 1;
     }
 
-    // ---- what there is
+    // ---- what there is; these methods change nothing
 
     public int records() {
         return now.recordCount;
@@ -551,7 +551,7 @@ public final class MultiValueFile {
         return NONE;
     }
 
-    // ---- computed
+    // ---- computed; these methods change nothing
 
     public int numbers(int id, int column) {
         FileRecord rec = now.find(id);

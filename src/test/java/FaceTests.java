@@ -14,6 +14,11 @@ import java.util.regex.Pattern;
 /** The class has the document's face and no other, and its source keeps to rules that can be seen in it. */
 public final class FaceTests {
     private static final Path SOURCE = Path.of("src/main/java/MultiValueFile.java");
+    private static final Path DOCUMENT = Path.of("../shared/DOC.md");
+    private static final int MOST_PARAMETERS = 7;
+    private static final int MOST_LINES = 60;
+    private static final int MOST_CLASSES = 12;
+    private static final int MOST_FIELDS = 20;
     private static final String[] FACE = {
         "int NO_SUCH = -1000001", "int BAD_VALUE = -1000002", "int BAD_TEXT = -1000003",
         "int TOO_MANY = -1000004", "int NOT_POSSIBLE = -1000005", "int LOCKED = -1000006",
@@ -40,7 +45,9 @@ public final class FaceTests {
 
     public static void main(String[] args) throws IOException, IllegalAccessException {
         face();
+        faceOfTheDocument();
         names();
+        sizes();
         source();
         System.out.println(wrong == 0 ? "the face and the source are as due" : wrong + " things are not as due");
         if (wrong != 0) {
@@ -86,6 +93,62 @@ public final class FaceTests {
         }
         Set<String> want = new TreeSet<>(Arrays.asList(FACE));
         due(found.equals(want), "the face is " + want + " and not " + found);
+    }
+
+    /** The source has each line of the document's face, in its order and below the words that it says ahead of it. */
+    private static void faceOfTheDocument() throws IOException {
+        String document = Files.readString(DOCUMENT);
+        String source = Files.readString(SOURCE);
+        String block = document.split("```java\n")[1].split("```")[0];
+        int at = 0;
+        for (String line : block.strip().split("\n")) {
+            String want = line.endsWith(");") ? line.replace(");", ") {") : line;
+            if (!line.equals("}")) {
+                int found = source.indexOf(want, at);
+                due(found >= 0, "the source has, in the document's order: " + want);
+                at = Math.max(at, found);
+            }
+        }
+        Matcher heading = Pattern.compile("Ahead of the calls (.*) the interface says: (----.*)\\.\n").matcher(document);
+        int headings = 0;
+        while (heading.find()) {
+            headings++;
+            String[] parts = source.split("// " + Pattern.quote(heading.group(2)) + "\n");
+            due(parts.length == 2, "the source says once: " + heading.group(2));
+            String part = parts[parts.length - 1].split("// ----")[0].split("private static final class")[0];
+            StringBuilder calls = new StringBuilder();
+            Matcher call = Pattern.compile("public \\w+ (\\w+)\\(").matcher(part);
+            while (call.find()) {
+                calls.append(calls.length() > 0 ? ", " : "").append('`').append(call.group(1)).append('`');
+            }
+            due(calls.toString().equals(heading.group(1)), "below " + heading.group(2) + " come " + heading.group(1));
+        }
+        due(headings == 6, "the document has six headings of calls, and not " + headings);
+    }
+
+    /** Bounds that the language names for the file, for classes and for methods. */
+    private static void sizes() throws IOException {
+        Class<?>[] inside = MultiValueFile.class.getDeclaredClasses();
+        due(inside.length < MOST_CLASSES, "the file has few classes");
+        Class<?>[] all = Arrays.copyOf(inside, inside.length + 1);
+        all[inside.length] = MultiValueFile.class;
+        int methods = 0;
+        for (Class<?> one : all) {
+            methods += one.getDeclaredMethods().length + one.getDeclaredConstructors().length;
+            due(Arrays.stream(one.getDeclaredFields()).filter(field -> !Modifier.isStatic(field.getModifiers())).count()
+                    <= MOST_FIELDS, one + " has few fields");
+            for (Method method : one.getDeclaredMethods()) {
+                due(method.getParameterCount() <= MOST_PARAMETERS, method + " has few parameters");
+            }
+        }
+        Matcher body = Pattern.compile("(?m)^( {4}| {8})(?!if|for|while|switch|do|\\})(\\S.*\\)) \\{\n((.*\n)*?)\\1\\}$")
+                .matcher(Files.readString(SOURCE));
+        int bodies = 0;
+        while (body.find()) {
+            bodies++;
+            due(body.group(3).lines().count() <= MOST_LINES, body.group(2) + " is short");
+        }
+        due(bodies == methods, "the source has " + methods + " methods and constructors, and not " + bodies);
     }
 
     /** No method of a class inside, and no private one, bears the name of a public one. */
